@@ -796,6 +796,7 @@ public final class RavenSupper {
         private static final int STAY = 7, PLACES = 8, BOTH_STAY = 77;
 
         private final int[] open = new int[BIRDS];
+        /** What a flight gains; to stay gains 0 at any time. */
         private final int[][] gain = new int[BIRDS][PLACES];
         private final int[] ahead = new int[MOST_LANDS];
         private final int[] planPairs = new int[MOST_EVENINGS];
@@ -842,7 +843,6 @@ public final class RavenSupper {
         private void openPlaces(World world, int lands) {
             for (int bird = 0; bird < BIRDS; bird++) {
                 open[bird] = world.reachedLands(bird) & lands | 1 << STAY;
-                gain[bird][STAY] = 0;
             }
         }
 

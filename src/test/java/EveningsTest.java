@@ -241,7 +241,10 @@ final class EveningsTest {
             }
         }
         x.way(0, 1, 7);
-        check.due("cut", x.sure(1, 1, 0, 0), 15);
+        int[] cut = {15, 15, 13, 1, 10, 12};
+        for (int kind = 0; kind < 6; kind++) {
+            check.due("7 by 4, cut, " + kind, x.sure(1, 1, kind, 0), cut[kind]);
+        }
         check.due("9 and no less than 8", x.sure(0, 1, 0, 0), 9);
         check.due("8 at least", x.sure(0, 1, 2, 0), 8);
         check.due("8 at least", x.sure(0, 1, 5, 0), 8);

@@ -11,6 +11,7 @@ final class FlightsTest {
         promise20Third();
         promise21Plan();
         promise21OneLandTwice();
+        promise21TwoEvenings();
         promise22Noon();
         promise23Mixed();
         promise24Round();
@@ -127,7 +128,10 @@ final class FlightsTest {
         // bird 1 gains nothing at land 3; two that are as bird 0 gain at both
         check.asks(x, "third(12)", () -> x.third(12), x.worth(0, 2) + x.worth(0, 3) - x.send(12, 1));
         check.due("and that is something", x.third(12) > 0 ? 1 : 0, 1);
+        x.bird(1, 0, 1);
+        check.asks(x, "it reaches what bird 0 reaches", () -> x.third(14), x.worth(0, 2));
         x.bird(0, 0, 1);
+        x.bird(1, 40, 1);
         check.asks(x, "it reaches no more than bird 0", () -> x.third(14), 0);
         for (int lands : new int[] {16, -1, HUGE, LOW}) {
             check.bad(x, "third", () -> x.third(lands), -2);
@@ -181,6 +185,37 @@ final class FlightsTest {
         check.asks(x, "plan(2, 1, 1)", () -> x.plan(2, 1, 1), 7);
         x.world(1);
         check.asks(x, "plan(2, 1, 0)", () -> x.plan(2, 1, 0), 7);
+    }
+
+    private static void plan(RavenSupper x, int lands, int doubt, int first, int second) {
+        check.asks(x, "plan(2, " + lands + ", NONE)", () -> x.plan(2, lands, -1), doubt);
+        check.asks(x, "plan(2, " + lands + ", 0)", () -> x.plan(2, lands, 0), first);
+        check.asks(x, "plan(2, " + lands + ", 1)", () -> x.plan(2, lands, 1), second);
+    }
+
+    private static void promise21TwoEvenings() {
+        RavenSupper x = lands();
+        for (int land = 0; land < 4; land++) {
+            x.change(land, 0, 0);
+        }
+        // land 2: 14 behind bird 0, 15 behind it twice, 10 behind bird 1; land 3: 13 behind bird 0, 8 behind bird 1
+        plan(x, 12, 2 + 3, 23, 32);
+        // bird 0 twice at land 2, bird 1 twice at land 1
+        plan(x, 6, 1 + 1, 21, 21);
+        // bird 1 at home, where once is enough
+        plan(x, 5, 1 + 0, 20, 20);
+        // what was told is not for the plan
+        x.tell(0, 3, 0, true);
+        plan(x, 12, 2 + 3, 23, 32);
+        x.bird(1, 0, 1);
+        x.change(2, 16, 16);
+        // war, 14, a day: 2; quiet, 0, a day: 16
+        plan(x, 4, 0, 27, 27);
+        x.belief(0, 0);
+        x.change(0, 8, 0);
+        // home is 8 behind the first day in any case; then war, 16, for good
+        plan(x, 1, 0, 7, 7);
+        check.asks(x, "one evening alone", () -> x.plan(1, 1, -1), 8);
     }
 
     private static void promise22Noon() {

@@ -99,6 +99,8 @@ final class KeepingTest {
         x.world(9);
         x.from(1);
         x.hush();
+        x.crow(0, 0, false);
+        x.crow(2, 3, true);
         x.belief(1, 0);
         x.change(1, 0, 0);
         x.bird(0, 1, 1);

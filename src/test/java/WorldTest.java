@@ -86,6 +86,8 @@ final class WorldTest {
         check.due("world(4)", x.world(4), 4);
         check.due("digest()", x.digest(), fresh.digest());
         check.due("far", x.of(1, 4), -1);
+        check.due("hours(0, 1)", x.hours(0, 1), 0);
+        check.due("hours(1, 0)", x.hours(1, 0), 0);
         check.due("status(0)", x.status(0), 1);
         check.no(x, "undo()", x::undo, -3);
         check.due("text", x.count(5), 1);
@@ -136,6 +138,9 @@ final class WorldTest {
         check.due("way(3, 1, 9)", x.way(3, 1, 9), 0);
         check.due("way(1, 3, 4)", x.way(1, 3, 4), 9);
         check.due("hours(3, 1)", x.hours(3, 1), 4);
+        check.due("way(0, 3, 1)", x.way(0, 3, 1), 0);
+        check.due("ways", x.count(2), 2);
+        check.due("way(0, 3, 0)", x.way(0, 3, 0), 1);
         check.due("ways", x.count(2), 1);
         check.due("way(3, 1, 0)", x.way(3, 1, 0), 4);
         check.due("ways", x.count(2), 0);
