@@ -680,14 +680,18 @@ public final class RavenSupper {
             return bits;
         }
 
-        int sureness(int bird, int land, int kind) {
+        int plainSureness(int bird, int land) {
             int each = forgets[bird];
             int forgotten = each == 0 ? 0 : far[land] / each;
-            return Odds.sureness(kind, Odds.less(WHOLE, forgotten));
+            return Odds.less(WHOLE, forgotten);
+        }
+
+        int sureness(int bird, int land, int kind) {
+            return Odds.sureness(kind, plainSureness(bird, land));
         }
 
         int flightWorth(int bird, int land) {
-            return Odds.flightWorth(tonight.belief[land], sureness(bird, land, PLAIN));
+            return Odds.flightWorth(tonight.belief[land], plainSureness(bird, land));
         }
 
         int daysLater(int land, int b, int days) {
@@ -696,6 +700,10 @@ public final class RavenSupper {
                 later = Odds.dayLater(later, up[land], down[land]);
             }
             return later;
+        }
+
+        int doubtTomorrow(int land, int b) {
+            return Odds.doubt(daysLater(land, b, 1));
         }
 
         // evenings
@@ -796,7 +804,7 @@ public final class RavenSupper {
         private static final int STAY = 7, PLACES = 8, BOTH_STAY = 77;
 
         private final int[] open = new int[BIRDS];
-        /** What a flight gains; to stay gains 0 at any time. */
+        /** What a flight to an open place gains; to stay gains 0 at any time. */
         private final int[][] gain = new int[BIRDS][PLACES];
         private final int[] ahead = new int[MOST_LANDS];
         private final int[] planPairs = new int[MOST_EVENINGS];
@@ -807,7 +815,9 @@ public final class RavenSupper {
             openPlaces(world, lands);
             for (int bird = 0; bird < BIRDS; bird++) {
                 for (int land = 0; land < world.lands; land++) {
-                    gain[bird][land] = hasBit(open[bird], land) ? world.flightWorth(bird, land) : 0;
+                    if (hasBit(open[bird], land)) {
+                        gain[bird][land] = world.flightWorth(bird, land);
+                    }
                 }
             }
             return bestPair();
@@ -905,10 +915,13 @@ public final class RavenSupper {
         private boolean endPlan(World world, int lands, int evening) {
             int doubt = 0;
             for (int land = 0; land < world.lands; land++) {
-                int left = Odds.doubt(world.daysLater(land, ahead[land], 1));
+                int left = world.doubtTomorrow(land, ahead[land]);
                 doubt += hasBit(lands, land) ? left : 0;
                 for (int bird = 0; bird < BIRDS; bird++) {
-                    gain[bird][land] = hasBit(open[bird], land) ? left - doubtBehindVisit(world, bird, land) : 0;
+                    if (hasBit(open[bird], land)) {
+                        int visited = behindVisit(world, bird, land, ahead[land]);
+                        gain[bird][land] = left - world.doubtTomorrow(land, visited);
+                    }
                 }
             }
             int pair = bestPair();
@@ -921,12 +934,8 @@ public final class RavenSupper {
             return true;
         }
 
-        private int doubtBehindVisit(World world, int bird, int land) {
-            return Odds.doubt(world.daysLater(land, behindVisit(world, bird, land, ahead[land]), 1));
-        }
-
         private static int behindVisit(World world, int bird, int land, int b) {
-            return Odds.behindTiding(b, world.sureness(bird, land, PLAIN), Odds.likelierWar(b));
+            return Odds.behindTiding(b, world.plainSureness(bird, land), Odds.likelierWar(b));
         }
     }
 
