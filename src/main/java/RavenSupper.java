@@ -858,11 +858,13 @@ public final class RavenSupper {
 
         private int bestPair() {
             int best = NONE;
+            int most = 0;
             for (int first = 0; first < PLACES; first++) {
                 for (int second = 0; second < PLACES; second++) {
-                    int pair = 10 * first + second;
-                    if (isOpen(first, second) && (best == NONE || pairGain(pair) > pairGain(best))) {
-                        best = pair;
+                    int together = gain[0][first] + gain[1][second];
+                    if (isOpen(first, second) && (best == NONE || together > most)) {
+                        best = 10 * first + second;
+                        most = together;
                     }
                 }
             }
