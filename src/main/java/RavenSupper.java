@@ -206,10 +206,10 @@ public final class RavenSupper {
         if (!within(m, 1, MOST_ROUND) || !now.areLands(lands) || !within(k, 1, MOST_SEEN_IN) || i < 0) {
             return refusedWith(BAD, OTHER_BAD);
         }
-        if (i >= m) {
-            return NOT_SO_MANY;
+        if (!rounds.find(now, m, lands, k)) {
+            return NONE;
         }
-        return rounds.find(now, m, lands, k) ? rounds.row[i] : NONE;
+        return i < m ? rounds.row[i] : NOT_SO_MANY;
     }
 
     // ---- crows, deeds

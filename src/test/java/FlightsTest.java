@@ -261,7 +261,10 @@ final class FlightsTest {
             check.asks(x, "round(" + m + ", " + lands + ", " + k + ", " + i + ")",
                 () -> x.round(m, lands, k, day), due.length == 0 ? -1 : due[i]);
         }
-        check.asks(x, "one too many", () -> x.round(m, lands, k, m), -5);
+        for (int tooMany : new int[] {m, m + 1, HUGE}) {
+            check.asks(x, "round(" + m + ", " + lands + ", " + k + ", " + tooMany + ")",
+                () -> x.round(m, lands, k, tooMany), due.length == 0 ? -1 : -5);
+        }
     }
 
     private static void promise24Round() {

@@ -153,6 +153,7 @@ final class KeepingTest {
         check.asks(x, "not so many", () -> x.plan(1, 1, 1), -5);
         check.asks(x, "not so many", () -> x.round(1, 1, 1, 1), -5);
         check.asks(x, "no round", () -> x.round(1, 2, 1, 0), -1);
+        check.asks(x, "no round, whichever day", () -> x.round(1, 2, 1, 1), -1);
         check.asks(x, "no odds", () -> x.mixed(1, 0, 1, 0), -1);
         check.asks(x, "unreached", () -> x.of(1, 4), -1);
         x.clear();

@@ -500,13 +500,10 @@ public final class Model {
         if (!in(m, 1, 5) || !bits(lands) || !in(k, 1, 12) || i < 0) {
             return refuse(-2, -10);
         }
-        if (i >= m) {
-            return -5;
-        }
         int[] row = new int[m];
         do {
             if (isRound(row, lands, k)) {
-                return row[i];
+                return i < m ? row[i] : -5;
             }
         } while (next(row));
         return -1;
