@@ -711,7 +711,7 @@ public final class RavenSupper {
         int passEvening() {
             keepTonight();
             for (int bird = 0; bird < BIRDS; bird++) {
-                if (tonight.land[bird] != NONE) {
+                if (isLand(tonight.land[bird])) {
                     believe(bird, tonight.land[bird], tonight.kind[bird]);
                 }
             }
@@ -730,11 +730,11 @@ public final class RavenSupper {
         }
 
         private void keepTonight() {
-            if (pasts == MOST_UNDONE) {
+            if (pasts >= MOST_UNDONE) {
                 for (int i = 1; i < MOST_UNDONE; i++) {
                     past[i - 1].copyFrom(past[i]);
                 }
-                pasts--;
+                pasts = MOST_UNDONE - 1;
             }
             past[pasts].copyFrom(tonight);
             pasts++;
@@ -801,7 +801,7 @@ public final class RavenSupper {
      * so that pairs, rising, are the order in which like ones are taken.
      */
     private static final class Flights {
-        private static final int STAY = 7, PLACES = 8, BOTH_STAY = 77;
+        private static final int STAY = 7, PLACES = 8;
 
         private final int[] open = new int[BIRDS];
         /** What a flight to an open place gains; to stay gains 0 at any time. */
@@ -824,7 +824,9 @@ public final class RavenSupper {
         }
 
         int pairGain(int pair) {
-            return within(pair, 0, BOTH_STAY) ? gain[0][pair / 10] + gain[1][pair % 10] : 0;
+            int first = pair / 10;
+            int second = pair % 10;
+            return isPlace(first) && isPlace(second) ? gain[0][first] + gain[1][second] : 0;
         }
 
         /** How much more the best three flights gain, the third one as bird 0's, than that pair. */
@@ -873,6 +875,10 @@ public final class RavenSupper {
 
         private boolean isOpen(int first, int second) {
             return hasBit(open[0], first) && hasBit(open[1], second) && areApart(first, second);
+        }
+
+        private static boolean isPlace(int number) {
+            return within(number, 0, PLACES - 1);
         }
 
         private static boolean areApart(int first, int second) {

@@ -356,8 +356,10 @@ final class FlightsEdgesTest {
         plan(x, 1, 5, 1, 2);
         plan(x, 1, 1, 0, 7);
         plan(x, 1, 8, 8, 77);
-        x.tell(0, 2, 0, true);
+        // what was told for this evening is no part of it: behind quiet there would be no doubt
+        x.tell(0, 2, 0, false);
         plan(x, 1, 4, 1, 27);
+        plan(x, 2, 4, 1, 27, 27);
     }
 
     private static void noon(int g, int l, int due) {

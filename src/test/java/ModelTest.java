@@ -7,7 +7,7 @@ import java.util.Random;
 
 /** Runs of 512 calls, drawn by fixed seeds, on the class and on the model: all promises, in any order. */
 final class ModelTest {
-    private static final int RUNS = 400, CALLS = 512;
+    private static final int RUNS = 800, CALLS = 512;
     private static final String[] TELLING = {
         "belief", "change", "way", "way", "way", "bird", "bird", "tell", "tell", "tell", "evening", "evening", "undo",
         "crow", "crow", "image", "from"};
@@ -53,6 +53,29 @@ final class ModelTest {
             }
             check.due("digest() behind call " + calls, x.digest(), model.digest());
         }
+        takeApart();
+    }
+
+    /** What neither answers nor digests showed: evenings that may be undone, images, the text. */
+    private void takeApart() throws Exception {
+        undoAll();
+        for (int i = 0; i < 2; i++) {
+            call("from", i);
+            undoAll();
+        }
+        call("read");
+        undoAll();
+    }
+
+    private void undoAll() throws Exception {
+        for (int undone = 0; undone <= 8; undone++) {
+            call("digest");
+            for (int land = 0; land < x.count(0); land++) {
+                call("of", land, 4);
+            }
+            call("undo");
+        }
+        call("digest");
     }
 
     private void typeText() throws Exception {
