@@ -1,3 +1,5 @@
+import java.util.function.Supplier;
+
 /** Promises 17 to 24: where to fly. What is due was worked out by hand or by the words of the document. */
 final class FlightsTest {
     private static final int HUGE = Integer.MAX_VALUE, LOW = Integer.MIN_VALUE;
@@ -219,16 +221,17 @@ final class FlightsTest {
     }
 
     private static void promise22Noon() {
-        RavenSupper x = new RavenSupper();
         for (int g = 0; g <= 99; g += 3) {
+            RavenSupper each = new RavenSupper();
             for (int l = 0; l <= 99; l += 3) {
                 int p = 0;
                 while (g * (16 - p) > l * p) {
                     p++;
                 }
-                check.due("noon(" + g + ", " + l + ")", x.noon(g, l), p);
+                check.due("noon(" + g + ", " + l + ")", each.noon(g, l), p);
             }
         }
+        RavenSupper x = new RavenSupper();
         check.asks(x, "noon(99, 99)", () -> x.noon(99, 99), 8);
         check.asks(x, "noon(99, 0)", () -> x.noon(99, 0), 16);
         check.asks(x, "noon(0, 99)", () -> x.noon(0, 99), 0);
@@ -255,7 +258,8 @@ final class FlightsTest {
         }
     }
 
-    private static void row(RavenSupper x, int m, int lands, int k, int... due) {
+    private static void row(Supplier<RavenSupper> made, int m, int lands, int k, int... due) {
+        RavenSupper x = made.get();
         for (int i = 0; i < m; i++) {
             int day = i;
             check.asks(x, "round(" + m + ", " + lands + ", " + k + ", " + i + ")",
@@ -267,38 +271,51 @@ final class FlightsTest {
         }
     }
 
-    private static void promise24Round() {
+    private static RavenSupper nearLandAlone() {
         RavenSupper x = lands();
-        row(x, 1, 0, 1, 0);
-        row(x, 5, 0, 12, 0, 0, 0, 0, 0);
-        row(x, 1, 4, 1, 2);
-        row(x, 3, 4, 1, 2, 2, 2);
-        row(x, 3, 4, 2, 0, 2, 2);
-        row(x, 3, 4, 3, 0, 0, 2);
-        row(x, 4, 4, 2, 0, 2, 0, 2);
-        row(x, 5, 4, 3, 0, 0, 2, 0, 2);
-        row(x, 2, 6, 2, 1, 2);
-        row(x, 3, 6, 2);
-        row(x, 5, 6, 2);
-        row(x, 5, 6, 3, 0, 1, 2, 1, 2);
-        row(x, 4, 15, 4, 0, 1, 2, 3);
-        row(x, 4, 15, 3);
-        row(x, 5, 15, 4);
-        row(x, 5, 15, 5, 0, 0, 1, 2, 3);
-        row(x, 5, 15, 12, 0, 0, 1, 2, 3);
-        row(x, 3, 15, 12);
         x.bird(0, 6, 1);
-        row(x, 2, 4, 2);
-        row(x, 2, 2, 2, 0, 1);
+        return x;
+    }
+
+    private static RavenSupper sixLands() {
+        RavenSupper x = new RavenSupper();
         x.world(6);
-        row(x, 5, 62, 5);
-        x.way(0, 1, 1);
-        x.way(0, 2, 1);
-        x.way(0, 3, 1);
-        x.way(0, 4, 1);
-        x.way(0, 5, 1);
-        row(x, 5, 62, 5, 1, 2, 3, 4, 5);
-        row(x, 5, 63, 12);
+        return x;
+    }
+
+    private static RavenSupper sixLandsWithWays() {
+        RavenSupper x = sixLands();
+        for (int land = 1; land < 6; land++) {
+            x.way(0, land, 1);
+        }
+        return x;
+    }
+
+    private static void promise24Round() {
+        Supplier<RavenSupper> four = FlightsTest::lands;
+        row(four, 1, 0, 1, 0);
+        row(four, 5, 0, 12, 0, 0, 0, 0, 0);
+        row(four, 1, 4, 1, 2);
+        row(four, 3, 4, 1, 2, 2, 2);
+        row(four, 3, 4, 2, 0, 2, 2);
+        row(four, 3, 4, 3, 0, 0, 2);
+        row(four, 4, 4, 2, 0, 2, 0, 2);
+        row(four, 5, 4, 3, 0, 0, 2, 0, 2);
+        row(four, 2, 6, 2, 1, 2);
+        row(four, 3, 6, 2);
+        row(four, 5, 6, 2);
+        row(four, 5, 6, 3, 0, 1, 2, 1, 2);
+        row(four, 4, 15, 4, 0, 1, 2, 3);
+        row(four, 4, 15, 3);
+        row(four, 5, 15, 4);
+        row(four, 5, 15, 5, 0, 0, 1, 2, 3);
+        row(four, 5, 15, 12, 0, 0, 1, 2, 3);
+        row(four, 3, 15, 12);
+        row(FlightsTest::nearLandAlone, 2, 4, 2);
+        row(FlightsTest::nearLandAlone, 2, 2, 2, 0, 1);
+        row(FlightsTest::sixLands, 5, 62, 5);
+        row(FlightsTest::sixLandsWithWays, 5, 62, 5, 1, 2, 3, 4, 5);
+        row(FlightsTest::sixLandsWithWays, 5, 63, 12);
     }
 
     private static void promise24Refused() {

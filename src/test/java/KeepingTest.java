@@ -163,14 +163,14 @@ final class KeepingTest {
         check.type(x, "world 9;");
         check.asks(x, "an item refused", x::read, -1000);
         // a worth of -2 would be no refusal either: none is counted by its number
-        x.belief(0, 15);
-        x.way(0, 1, 5);
         for (int b = 0; b <= 16; b++) {
-            x.belief(1, b);
+            RavenSupper y = new RavenSupper();
+            y.way(0, 1, 5);
+            y.belief(1, b);
             for (int forgets = 1; forgets <= 9; forgets++) {
-                x.bird(0, 12, forgets);
-                int due = x.worth(0, 1);
-                check.asks(x, "worth(0, 1)", () -> x.worth(0, 1), due);
+                y.bird(0, 12, forgets);
+                int due = y.worth(0, 1);
+                check.asks(y, "worth(0, 1)", () -> y.worth(0, 1), due);
             }
         }
     }

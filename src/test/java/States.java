@@ -65,10 +65,8 @@ enum States {
         x.belief(5, 1);
         x.evening();
         x.tell(0, 0, 4, true);
-        type(x, "world 6;way 4 5 9;way 0 4 1;");
-        while (x.count(5) < 150) {
-            x.type(' ');
-        }
+        String text = "world 6;way 4 5 9;way 0 4 1;";
+        type(x, text + " ".repeat(150 - text.length()));
         x.type(' ');
         return x;
     }
