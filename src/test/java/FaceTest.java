@@ -35,6 +35,7 @@ final class FaceTest {
         methods();
         namesInside();
         source();
+        rowsOfConstructors();
         check.end();
     }
 
@@ -107,6 +108,17 @@ final class FaceTest {
             check.due("in the source: " + pattern, m.find() ? 1 : 0, 0);
         }
         check.due("signs above 127", source.chars().filter(c -> c > 127).count(), 0);
+    }
+
+    /** No call makes an object: what is made stands in a field, but for the evenings of one constructor. */
+    private static void rowsOfConstructors() throws Exception {
+        List<String> elsewhere = new ArrayList<>();
+        for (String line : Files.readAllLines(Path.of("src/main/java/RavenSupper.java"))) {
+            if (line.matches(".*\\bnew \\w+[(\\[].*") && !line.matches("\\s*private final .* = .*")) {
+                elsewhere.add(line.trim());
+            }
+        }
+        check.due("made elsewhere: " + elsewhere, elsewhere.equals(List.of("past[i] = new Evening();")) ? 1 : 0, 1);
     }
 
     private static void same(String what, Set<String> got, Set<String> due) {

@@ -5,6 +5,7 @@ final class WorldTest {
 
     public static void main(String[] args) {
         promise1NewObject();
+        promise1NewObjectAmongOthers();
         promise2World();
         promise2WorldTellsNothingElse();
         promise3Belief();
@@ -47,6 +48,35 @@ final class WorldTest {
         check.no(x, "undo()", x::undo, -3);
         check.no(x, "from(0)", () -> x.from(0), -3);
         check.no(x, "from(1)", () -> x.from(1), -3);
+    }
+
+    /** Objects share nothing: one is as new whatever others were told before it or are told meanwhile. */
+    private static void promise1NewObjectAmongOthers() {
+        RavenSupper rich = States.RICH.make();
+        RavenSupper full = States.FULL.make();
+        RavenSupper x = new RavenSupper();
+        RavenSupper y = new RavenSupper();
+        long first = x.digest();
+        long richFirst = rich.digest();
+        y.world(2);
+        y.type('y');
+        y.image(1);
+        y.evening();
+        y.undo();
+        y.undo();
+        full.plan(2, 63, 0);
+        check.due("digest()", x.digest(), first);
+        for (int what = 0; what < 3; what++) {
+            check.due("status(" + what + ")", x.status(what), 0);
+        }
+        check.no(x, "undo()", x::undo, -3);
+        check.no(x, "from(1)", () -> x.from(1), -3);
+        check.asks(x, "read()", x::read, -10);
+        check.due("send(15, 0)", x.send(15, 0), 7);
+        x.belief(0, 0);
+        x.evening();
+        check.due("another one, meanwhile", rich.digest(), richFirst);
+        check.due("one made behind them", new RavenSupper().digest(), first);
     }
 
     private static void promise2World() {
